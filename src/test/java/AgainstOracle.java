@@ -12,6 +12,10 @@ public final class AgainstOracle {
                 one(seed);
             }
         }, "oracle", 1L << 29);
+        thread.setUncaughtExceptionHandler((t, thrown) -> {
+            thrown.printStackTrace();
+            System.exit(1);
+        });
         thread.start();
         thread.join();
         System.out.println("runs by their ends: " + java.util.Arrays.toString(seen) + ", faults: "
