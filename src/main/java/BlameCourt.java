@@ -276,7 +276,8 @@ public final class BlameCourt {
 
     /** The tape, token by token; a name's letters are packed into a long, eight bits each. */
     private static final class Tokens {
-        private static final long TOO_HIGH = 2147483648L;
+        /** No number is above the one below this; higher ones are taken as this. */
+        static final long TOO_HIGH = 2147483648L;
         private byte[] text = new byte[0];
         private int length = 0;
         private int next = 0;
@@ -649,7 +650,9 @@ public final class BlameCourt {
             parts = 0;
             mainPart = NONE;
             length = 0;
-            Arrays.fill(isTold, true);
+            for (int k = 0; k < MAX_PARTS; k++) {
+                isTold[k] = true;
+            }
         }
 
         int letterOf(int k, int i) {
@@ -1198,7 +1201,7 @@ public final class BlameCourt {
         }
 
         private void takeDigits() {
-            if (tokens.number > Integer.MAX_VALUE) {
+            if (tokens.number >= Tokens.TOO_HIGH) {
                 refuse(FAULT_NUMBER);
                 return;
             }

@@ -258,7 +258,20 @@ final class Programs {
         }
         int k = fit.get(below(fit.size()));
         String name = chance(85) ? partNames.get(k) : "(" + partNames.get(k) + ")";
-        return name + values(partKinds.get(k).takes, depth);
+        String call = name + values(partKinds.get(k).takes, depth);
+        return partKinds.get(k).gives.form == 'a' && chance(20) ? call + behindAny(depth) : call;
+    }
+
+    /** What of no told kind may be called, or have places. */
+    private String behindAny(int depth) {
+        switch (below(3)) {
+            case 0:
+                return "[0]";
+            case 1:
+                return "()";
+            default:
+                return "(" + e(kind(1), depth - 1) + ")";
+        }
     }
 
     private String values(List<Oracle.Kind> takes, int depth) {
@@ -346,6 +359,20 @@ final class Programs {
             takes.add(alike(k));
         }
         return new Oracle.Kind('f', takes, alike(kind.gives));
+    }
+
+    /** A text of just 3,000 bytes, with as much in it as there can be. */
+    String dense() {
+        String[] items = {"-".repeat(38) + "1", "!".repeat(38) + "true", "1" + "+1".repeat(40), "1" + "*1".repeat(40),
+            "[" + "1,".repeat(19) + "1]", "[" + "1,".repeat(19) + "m]", "m" + "()".repeat(40), "[".repeat(38) + "]".repeat(38),
+            "{" + "1;".repeat(30) + "1}", "m", "1", "m[0]:=1", "let a=m in a", "if m then 1 else m", "(1)", "new(1,m)", "size(m)"};
+        String dear = items[below(items.length)];
+        StringBuilder b = new StringBuilder("part main()=let m:any=1 in{1");
+        while (b.length() < 2996) {
+            String item = chance(70) ? dear : items[below(items.length)];
+            b.append(b.length() + item.length() < 2996 ? ";" + item : " ");
+        }
+        return b.append("};").append(" ".repeat(3000 - 2 - 2996)).substring(0, 3000);
     }
 
     private static final String[] BITS = {"(", ")", "[", "]", "{", "}", ",", ";", ":", "=", "<", "+", "-", "*", "/", "%",

@@ -29,7 +29,10 @@ public final class AgainstOracle {
         if (seed % 4 == 0) {
             text = programs.spoil(text);
         }
-        if (text.length() > 2980) {
+        if (seed % 100 == 7) {
+            text = programs.dense();
+        }
+        if (text.length() > 2980 && text.length() != 3000) {
             return;
         }
         BlameCourt court = new BlameCourt();

@@ -152,6 +152,9 @@ public final class JudgeTest {
             guard(37, 1, 1, INT, ANY));
         guards("part f(x)=f;part main()=f(1)(2);", guard(10, 0, 0, fn(ANY, ANY), ANY), guard(26, 1, 0, INT, ANY),
             guard(28, 1, 1, ANY, fn(ANY, ANY)), guard(29, 1, 1, INT, ANY));
+        guards("part main()=f(1)(2);part f(x)=f;", guard(14, 0, 1, INT, ANY), guard(16, 0, 0, ANY, fn(ANY, ANY)),
+            guard(17, 0, 0, INT, ANY), guard(30, 1, 1, fn(ANY, ANY), ANY));
+        guards("part main()=[f][0](2);part f(x)=f;", guard(19, 0, 0, INT, ANY), guard(32, 1, 1, fn(ANY, ANY), ANY));
         guards("part f(f)=f(1);part main()=f(f);", guard(11, 0, 0, ANY, fn(ANY, ANY)), guard(12, 0, 0, INT, ANY),
             guard(29, 1, 0, fn(ANY, ANY), ANY));
         guards("part main()=main();");
