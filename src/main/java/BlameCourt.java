@@ -1370,9 +1370,9 @@ public final class BlameCourt {
                     program.y[pc] = NONE;
                     judgeAsking(pc);
                 } else if (program.op[pc] >= Op.NEW) {
-                    judgeSum(program.op[pc], program.x[pc]);
-                } else {
                     judgeWork(program.op[pc], program.x[pc]);
+                } else {
+                    judgePlain(program.op[pc], program.x[pc]);
                 }
             }
         }
@@ -1405,7 +1405,7 @@ public final class BlameCourt {
             push(kind);
         }
 
-        private void judgeWork(int op, int x) {
+        private void judgePlain(int op, int x) {
             switch (op) {
                 case Op.STEP:
                 case Op.JUMP:
@@ -1438,7 +1438,7 @@ public final class BlameCourt {
             }
         }
 
-        private void judgeSum(int op, int x) {
+        private void judgeWork(int op, int x) {
             switch (op) {
                 case Op.NEW:
                     replace(2, kinds.rowOf(below(0)));
@@ -1732,9 +1732,9 @@ public final class BlameCourt {
                 if (op >= Op.ASK_INT) {
                     workAsking(here);
                 } else if (op >= Op.NEGATE) {
-                    workSum(op, program.place[here]);
+                    workNumbers(op, program.place[here]);
                 } else if (op >= Op.ROW) {
-                    workRow(op, program.x[here], program.place[here]);
+                    workRowOrCall(op, program.x[here], program.place[here]);
                 } else {
                     workPlain(op, program.x[here], program.place[here]);
                 }
@@ -1859,7 +1859,7 @@ public final class BlameCourt {
             return at >= 0 && at < local.length ? at : 0;
         }
 
-        private void workRow(int op, int x, int place) {
+        private void workRowOrCall(int op, int x, int place) {
             switch (op) {
                 case Op.ROW:
                     makeRow(x, place);
@@ -2028,7 +2028,7 @@ public final class BlameCourt {
             }
         }
 
-        private void workSum(int op, int place) {
+        private void workNumbers(int op, int place) {
             int right = popContent();
             if (op == Op.NEGATE) {
                 pushNumber(-right);
@@ -2044,11 +2044,11 @@ public final class BlameCourt {
             } else if (right == 0 && op >= Op.DIVIDE) {
                 failWith(FAIL_DIVISION, place);
             } else {
-                pushNumber(sumOf(op, left, right));
+                pushNumber(resultOf(op, left, right));
             }
         }
 
-        private static int sumOf(int op, int left, int right) {
+        private static int resultOf(int op, int left, int right) {
             switch (op) {
                 case Op.ADD:
                     return left + right;
