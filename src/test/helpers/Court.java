@@ -1,3 +1,7 @@
+import java.util.ArrayList;
+import java.util.List;
+import java.util.function.IntSupplier;
+
 /** What the tests share: texts go to a court by its own calls, and answers are held against those that are due. */
 final class Court {
     private static int wrong = 0;
@@ -40,10 +44,20 @@ final class Court {
         return word;
     }
 
-    /** Puts a text on an empty tape: at most 2,980 bytes, or 3,000, or a multiple of 20 between. */
+    /** The twenty bytes of a text from there on, with blanks behind its end, as feed takes them. */
+    static int[] words(String text, int from) {
+        int[] words = new int[5];
+        for (int i = 0; i < 5; i++) {
+            words[i] = word(text, from + 4 * i);
+        }
+        return words;
+    }
+
+    /** Puts a text on an empty tape: at most 3,000 bytes. */
     static void put(BlameCourt court, String text) {
         for (int i = 0; i < text.length(); i += 20) {
-            court.feed(word(text, i), word(text, i + 4), word(text, i + 8), word(text, i + 12), word(text, i + 16));
+            int[] w = words(text, i);
+            court.feed(w[0], w[1], w[2], w[3], w[4]);
         }
         court.end(text.length());
     }
@@ -110,6 +124,64 @@ final class Court {
         for (int what = 4; what <= 6; what++) {
             due("told(" + what + ") of " + marked, BlameCourt.NONE, court.told(what));
         }
+    }
+
+    /** The oracle goes down as deep as a text and its calls go. */
+    static void onDeepStack(Runnable work) throws InterruptedException {
+        Thread thread = new Thread(null, work, "deep", 1L << 29);
+        thread.setUncaughtExceptionHandler((t, thrown) -> {
+            thrown.printStackTrace();
+            System.exit(1);
+        });
+        thread.start();
+        thread.join();
+    }
+
+    /** All that an object answers without being changed, but fault(): what is the same behind a call, that call left alone. */
+    static List<Integer> state(BlameCourt court) {
+        List<Integer> all = new ArrayList<>();
+        for (int what = -1; what <= 10; what++) {
+            all.add(court.about(what));
+            all.add(court.told(what));
+        }
+        for (int k = 0; k < Math.min(court.about(1), 4); k++) {
+            for (int what : new int[] {0, 1, 2, 3, 4, 100, 101, 107}) {
+                all.add(court.part(k, what));
+            }
+            for (int taker = 0; taker < Math.min(court.about(1), 4); taker++) {
+                all.add(court.asked(k, taker));
+            }
+        }
+        for (int i = 0; i < Math.min(court.about(3), 6); i++) {
+            for (int what = 0; what < 5; what++) {
+                all.add(court.guard(i, what));
+            }
+        }
+        for (int i = 0; i < 4; i++) {
+            all.add(court.out(i));
+        }
+        return all;
+    }
+
+    /** A call that is refused: its answer, and that nothing is done by it. */
+    static void refused(String what, BlameCourt court, int want, IntSupplier call) {
+        List<Integer> before = state(court);
+        int fault = court.fault(0);
+        int place = court.fault(1);
+        due(what, want, call.getAsInt());
+        due(what + " left all as it was", true, before.equals(state(court)));
+        due("fault(0) behind " + what, fault, court.fault(0));
+        due("fault(1) behind " + what, place, court.fault(1));
+    }
+
+    /** A text that is refused, the tape being empty: its fault at the mark, and that all else stays. */
+    static void refusedRead(BlameCourt court, int fault, String marked) {
+        String text = marked.replace("@", "");
+        List<Integer> before = state(court);
+        due("read of " + marked, BlameCourt.NONE, read(court, text));
+        due("what stays behind " + marked, true, before.equals(state(court)));
+        due("fault(0) of " + marked, fault, court.fault(0));
+        due("fault(1) of " + marked, marked.contains("@") ? marked.indexOf('@') : text.length(), court.fault(1));
     }
 
     static String repeat(String text, int times) {

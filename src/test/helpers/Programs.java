@@ -375,6 +375,117 @@ final class Programs {
         return b.append("};").append(" ".repeat(3000 - 2 - 2996)).substring(0, 3000);
     }
 
+    private int near(int bound) {
+        return bound - 1 + below(3);
+    }
+
+    private String oneOf(String... some) {
+        return some[below(some.length)];
+    }
+
+    /** So many of these, each chosen anew, with something between. */
+    private String some(int many, String between, String... of) {
+        StringBuilder b = new StringBuilder();
+        for (int i = 0; i < many; i++) {
+            b.append(i > 0 ? between : "").append(oneOf(of));
+        }
+        return b.toString();
+    }
+
+    private static final String[][] OPENERS = {{"(", ")"}, {"[", "]"}, {"{", "}"}, {"f(", ")"}, {"f[", "]"}, {"f[0]:=", ""},
+        {"size(", ")"}, {"print(", ")"}, {"new(", ",1)"}, {"new(1,", ")"}, {"-", ""}, {"!", ""}, {"let a=", " in 1"},
+        {"let a=1 in ", ""}, {"if ", " then 1 else 1"}, {"if 1 then ", " else 1"}, {"if 1 then 1 else ", ""},
+        {"{(1);", "}"}, {"[-1,", "]"}, {"(1)+f(", ")"}};
+    /** Those of them that may stand behind - and !. */
+    private static final int PLAIN_OPENERS = 12;
+    private static final String[][] KIND_OPENERS = {{"[", "]"}, {"fn()", ""}, {"fn(", ")int"}, {"fn(int,", ")[int]"}};
+
+    private String opened(String inmost, int many) {
+        String before = "";
+        String behind = "";
+        boolean plain = false;
+        for (int i = 0; i < many; i++) {
+            String[] o = OPENERS[below(plain ? PLAIN_OPENERS : OPENERS.length)];
+            plain = o[0].equals("-") || o[0].equals("!");
+            before += o[0];
+            behind = o[1] + behind;
+        }
+        return before + inmost + behind;
+    }
+
+    private String openedKind() {
+        String before = "";
+        String behind = "";
+        int many = 0;
+        int most = near(39) + below(2);
+        while (many < most) {
+            String[] o = KIND_OPENERS[below(most - many > 1 ? 4 : 1)];
+            many += o[0].equals("[") || o[0].equals("fn()") ? 1 : 2;
+            before += o[0];
+            behind = o[1] + behind;
+        }
+        return before + oneOf("int", "any", "fn()int", "[int]") + behind;
+    }
+
+    /** A text that has as many of something as it may have, or one less, or one more. */
+    String crowded() {
+        String f = "part f(a,b,c,d)=a;";
+        String main = "part main()=";
+        String[] es = {"1", "f", "true", "-1", "(1)", "[1]", "[]", "f(1,2,3,4)", "let a=1 in a", "2147483647"};
+        switch (below(10)) {
+            case 0: {
+                StringBuilder b = new StringBuilder();
+                int many = near(40);
+                int twice = below(120);
+                for (int k = 0; k < many; k++) {
+                    int name = k == twice ? k / 2 : k;
+                    b.append("part ").append(name == 5 ? "main" : "p" + (char) ('a' + name % 20) + (char) ('a' + name / 20));
+                    b.append("()=").append(chance(97) ? "1;" : "paa;").append(chance(20) ? " " : "");
+                }
+                return b.toString();
+            }
+            case 1:
+                return "part f(" + some(near(4), ",", "a", "b:int", "c", "d:[fn(int)any]", "e", "g", "h", "i", "j") + ")=1;part main()=1;";
+            case 2:
+                return f + "part g(a:fn(" + some(near(4), ",", "int", "[any]", "fn()int") + ")int)=1;part main()=1;";
+            case 3:
+                return f + main + opened("f(" + some(near(4), ",", es) + oneOf(")", ",2147483648)", ",)"), below(3)) + ";";
+            case 4:
+                return f + main + opened("[" + some(near(20), ",", es) + oneOf("]", "]", ",#]"), below(3)) + ";";
+            case 5:
+                return f + main + opened("1" + some(near(40), "", "+1", "-1", "+1*2", "- -1"), 1) + ";";
+            case 6:
+                return f + main + opened("1" + some(near(40), "", "*1", "/1", "%1", "*-1") + oneOf("", "+1*1", "<1"), 1) + ";";
+            case 7:
+                return f + main + opened("f" + some(near(40), "", "()", "[0]", "(1)", "[f]") + oneOf("", ":=1", "+1"), below(2)) + ";";
+            case 8:
+                return f + "part g(" + (chance(50) ? "a:" + openedKind() + ")=1;" : "):" + openedKind() + "=1;") + main + "1;";
+            default:
+                return f + main + opened(oneOf("1", "f", "f(1)", "f[1]", "let a:[int]=1 in 1"), near(40)) + ";";
+        }
+    }
+
+    private static final String[] FILLERS = {"[]", "[n]", "[n,n,n,n]", "new(40,n)", "new(1000,n)", "new(0,n)", "print(n)",
+        "let a:any=[n] in 0", "let a:any=q in 0", "let a:[any]=[n] in a[0]", "w(2,[n])", "v(2,q)", "let a:[any]=[n] in a[0]:=n"};
+
+    /** A program that makes as much as it may, or a little less, or more. */
+    String filling() {
+        String around = "part q(x:int):int=x;part w(n:int,r:any):any=if n=0 then r else let s:[int]=r in w(n-1,s);"
+            + "part v(n:int,r:any):any=if n=0 then r else let s:fn(any)int=r in v(n-1,s);";
+        String one = oneOf(FILLERS);
+        String loop = "part p(n:int):int=if n=0 then 0 else {" + one + ";" + (chance(30) ? oneOf(FILLERS) + ";" : "") + "p(n-1)};";
+        StringBuilder main = new StringBuilder("part main()={");
+        for (int i = below(12); i > 0; i--) {
+            main.append(oneOf("p(10);", "p(90);", "p(98);", "p(99);", "p(20);", "p(5);"));
+        }
+        for (int i = below(6); i > 0; i--) {
+            main.append(oneOf("let n=1 in " + oneOf(FILLERS) + ";", "w(" + near(10) + ",[1]);", "v(" + near(10) + ",q);",
+                "let s:[int]=w(9,[1]) in " + oneOf("s[0]", "s[0]:=2", "s", "let t:any=s in 1", "s[1]") + ";",
+                "let s:fn(int)int=v(9,q) in " + oneOf("s(1)", "[s,1]", "let t:any=s in 1") + ";"));
+        }
+        return around + loop + main + oneOf("0", "w(9,[1])", "v(9,q)") + "};";
+    }
+
     private static final String[] BITS = {"(", ")", "[", "]", "{", "}", ",", ";", ":", "=", "<", "+", "-", "*", "/", "%",
         "!", ":=", " ", "\n", "part ", "let ", " in ", "if ", " then ", " else ", "true", "false", "new", "size",
         "print", "int", "flag", "any", "fn", "x", "a", "main", "1", "2147483647", "2147483648", "0000000000000000007",

@@ -7,17 +7,11 @@ public final class AgainstOracle {
     public static void main(String[] args) throws InterruptedException {
         int many = args.length > 0 ? Integer.parseInt(args[0]) : 6000;
         int from = args.length > 1 ? Integer.parseInt(args[1]) : 1;
-        Thread thread = new Thread(null, () -> {
+        Court.onDeepStack(() -> {
             for (int seed = from; seed < from + many && Court.wrongs() < 20; seed++) {
                 one(seed);
             }
-        }, "oracle", 1L << 29);
-        thread.setUncaughtExceptionHandler((t, thrown) -> {
-            thrown.printStackTrace();
-            System.exit(1);
         });
-        thread.start();
-        thread.join();
         System.out.println("runs by their ends: " + java.util.Arrays.toString(seen) + ", faults: "
             + java.util.Arrays.toString(faults) + ", runs with wrappings: " + wrapped);
         Court.close();
@@ -29,10 +23,25 @@ public final class AgainstOracle {
         if (seed % 4 == 0) {
             text = programs.spoil(text);
         }
-        if (seed % 100 == 7) {
-            text = programs.dense();
+        switch (seed % 50) {
+            case 7:
+                text = programs.dense();
+                break;
+            case 1:
+            case 13:
+            case 26:
+            case 39:
+                text = programs.crowded();
+                break;
+            case 3:
+            case 17:
+            case 31:
+                text = programs.filling();
+                break;
+            default:
+                break;
         }
-        if (text.length() > 2980 && text.length() != 3000) {
+        if (text.length() > 3000) {
             return;
         }
         BlameCourt court = new BlameCourt();
