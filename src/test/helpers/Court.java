@@ -83,6 +83,13 @@ final class Court {
         return court;
     }
 
+    /** A text that is judged and run with all the fuel, to an end that is due. */
+    static BlameCourt judgedRun(String text, int end) {
+        BlameCourt court = judged(text);
+        due("run of " + text, end, court.run(20000));
+        return court;
+    }
+
     /** The fault of read(), at the place of a mark: a text with one @, which is taken out; no mark: at the length. */
     static void readFault(int fault, String marked) {
         int place = marked.indexOf('@');
