@@ -25,6 +25,9 @@ public final class KindEdgesTest {
         judgeRefuses();
         guardBounds();
         mostNames();
+        besideOthers();
+        mostKinds();
+        kindsOfFormerTexts();
         Court.close();
     }
 
@@ -588,5 +591,166 @@ public final class KindEdgesTest {
         x = Court.judged(text);
         Court.due("run", 0, x.run(20000));
         Court.due("told(5)", ((0 * 10 + 4 + 5 + 6 + 1) * 10 + 3 + 4 + 5 + 2) * 100 + (2 + 3 + 4 + 3) * 10 + 10, x.told(5));
+    }
+
+    /** Of each kind some e, of each form that an e can have. */
+    private static final String[][] FORMS = {
+        {"int", "1", "i", "i+1", "i-i*2", "1/i%3", "-i", "- -1", "h(i)", "h(h(i))", "r[0]", "r[0]:=1", "r[i]:=r[0]:=i", "size(r)", "size([1])", "print(1)",
+            "(i)", "{true;[2];i}", "if b then 1 else i", "let z=b in i", "let z:flag=b in 1", "[1][0]", "[[i]][0][0]", "new(1,1)[0]", "(h)(1)", "[h][0](1)",
+            "new(2,r)[1][0]"},
+        {"flag", "true", "false", "b", "!b", "!!true", "1<i", "i=1", "1+i<i*2", "(b)", "{1;b}", "if b then b else true", "let z=1 in b", "[b][0]", "new(1,b)[0]:=true",
+            "k(b,1)", "(k)(b,i)"},
+        {"[int]", "r", "[1]", "[i,1]", "[1,2,i]", "new(1,1)", "new(i,i)", "(r)", "{b;r}", "[r][0]", "[r,[1]][0]", "if b then r else [1]", "let z=r in z"},
+        {"[[int]]", "[r]", "[r,r]", "new(1,r)", "[[1],r,new(1,1)]"},
+        {"[any]", "[]", "([])"},
+        {"fn(int)int", "h", "(h)", "[h][0]", "if b then h else h", "let z=h in z", "new(1,h)[0]"},
+        {"[fn(int)int]", "[h]", "[h,h]", "new(2,h)"},
+        {"any", "a", "(a)", "[a][0]"}};
+
+    /** Each e beside another one, ahead of it and behind: of both all is as it is of each alone. */
+    private static void besideOthers() {
+        for (String[] one : FORMS) {
+            for (int i = 1; i < one.length; i++) {
+                String[] other = FORMS[i % FORMS.length];
+                String e = one[i];
+                String o = other[1 + i * 5 % (other.length - 1)];
+                beside("f(", e, ",", o, ")", one[0], other[0]);
+                beside("f(", o, ",", e, ")", other[0], one[0]);
+                beside("[", e, ",", o, "]", one[0], other[0]);
+                beside("[", o, ",", e, "]", other[0], one[0]);
+                beside("if b then ", e, " else ", o, "", one[0], other[0]);
+                beside("if b then ", o, " else ", e, "", other[0], one[0]);
+                beside("{", e, ";", o, "}", one[0], other[0]);
+                beside("let y=", e, " in ", o, "", one[0], other[0]);
+            }
+        }
+    }
+
+    /** The one e and the other one in some e around both: its kind, and just the guards to any, if they are not alike. */
+    private static void beside(String before, String one, String between, String other, String behind, String kindOne, String kindOther) {
+        boolean call = before.equals("f(");
+        boolean row = before.equals("[");
+        boolean joins = row || before.startsWith("if");
+        boolean mixed = joins && !kindOne.equals(kindOther);
+        String kind = call ? "int" : mixed ? "any" : kindOther;
+        String head = "part f(x:" + (call ? kindOne : "int") + ",y:" + (call ? kindOther : "int") + "):int=1;part h(x:int):int=x;"
+            + "part k(x:flag,y:int):flag=x;part g(i:int,b:flag,a:any,r:[int]):int=let w:" + (row ? "[" + kind + "]" : kind) + "=" + before;
+        String tail = behind + " in 0;part main():int=1;";
+        String text = head + one + between + other + tail;
+        BlameCourt x = Court.readNew(text);
+        Court.due("judge of " + text, !mixed ? 0 : kindOne.equals("any") || kindOther.equals("any") ? 1 : 2, x.judge());
+        int i = 0;
+        if (mixed && !kindOne.equals("any")) {
+            guard(x, i++, head.length(), 3, 3, code(kindOne), ANY);
+        }
+        if (mixed && !kindOther.equals("any")) {
+            guard(x, i, head.length() + one.length() + between.length(), 3, 3, code(kindOther), ANY);
+        }
+        if (call && !kindOther.equals("any")) {
+            Court.judgeFault(9, head + one + between + "@" + (kindOther.equals("flag") ? "1" : "true") + tail);
+        }
+        if (call && !kindOne.equals("any")) {
+            Court.judgeFault(9, head + "@" + (kindOne.equals("flag") ? "1" : "true") + between + other + tail);
+            x = Court.judged(head + "a" + between + other + tail);
+            Court.due("guards of " + head + "a" + between + other, 1, x.about(3));
+            guard(x, 0, head.length(), 3, 0, ANY, code(kindOne));
+        }
+    }
+
+    /** Texts with kinds upon kinds: rows as deep as may be, of kinds of which each text has others (its residue). */
+    private static final class Crowd {
+        private final List<String> kinds = new ArrayList<>();
+        private final List<Integer> places = new ArrayList<>();
+        private final String text;
+        /** One of each row, one of main, and one of each part whose kind is left out. */
+        private int guards = 1;
+
+        Crowd(int residue, int of) {
+            StringBuilder parts = new StringBuilder();
+            StringBuilder rows = new StringBuilder();
+            List<String> headers = headers();
+            for (int i = residue; i < headers.size(); i += of) {
+                String name = String.valueOf((char) ((kinds.size() < 26 ? 'a' : 'A' - 26) + kinds.size()));
+                String[] h = headers.get(i).split(";");
+                String part = "part " + name + h[0] + ";";
+                int size = rows.length() + 2 * ROWS + name.length() + 1;
+                if (kinds.size() == 38 || HEAD.length() + size + parts.length() + part.length() + 3 > 3000) {
+                    break;
+                }
+                // the first twenty in one row, the others in another
+                rows.append(kinds.isEmpty() ? "[" : kinds.size() == 20 ? "];[" : ",");
+                places.add(HEAD.length() + rows.length());
+                rows.append(many("[", ROWS)).append(name).append(many("]", ROWS));
+                parts.append(part);
+                kinds.add(many("[", ROWS) + h[1] + many("]", ROWS));
+                guards += h[1].endsWith("any") ? 2 : 1;
+            }
+            text = HEAD + rows + "]};" + parts;
+        }
+
+        private static final int ROWS = 38;
+        private static final String HEAD = "part main():any={";
+
+        /** Headers with an e behind them, and the kinds of such parts; the shortest come first. */
+        private static List<String> headers() {
+            List<String> headers = new ArrayList<>();
+            String[][] owns = {{"=1", "any"}, {":int=1", "int"}, {":flag=true", "flag"}};
+            String[] kinds = {"int", "flag", "[int]", "fn()int"};
+            for (String[] own : owns) {
+                for (String k : kinds) {
+                    headers.add("(a:" + k + ")" + own[0] + ";fn(" + k + ")" + own[1]);
+                    headers.add("(a,b:" + k + ")" + own[0] + ";fn(any," + k + ")" + own[1]);
+                    headers.add("(a:" + k + ",b)" + own[0] + ";fn(" + k + ",any)" + own[1]);
+                    headers.add("(a,b,c:" + k + ")" + own[0] + ";fn(any,any," + k + ")" + own[1]);
+                    for (String l : kinds) {
+                        headers.add("(a:" + k + ",b:" + l + ")" + own[0] + ";fn(" + k + "," + l + ")" + own[1]);
+                    }
+                }
+            }
+            headers.sort((one, other) -> Integer.compare(one.indexOf(';'), other.indexOf(';')));
+            return headers;
+        }
+
+        /** All its guards: from each row's kind to any, and from the last row to any. */
+        void judged(BlameCourt x) {
+            Court.due("judge of " + text, guards, x.judge());
+            for (int i = 0; i < kinds.size(); i++) {
+                one(x, i);
+            }
+        }
+
+        void one(BlameCourt x, int i) {
+            guard(x, i, places.get(i), 0, 0, code(kinds.get(i)), ANY);
+        }
+    }
+
+    /** As many kinds as a text of 3,000 bytes can well have. */
+    private static void mostKinds() {
+        Crowd crowd = new Crowd(0, 1);
+        Court.due("kinds of " + crowd.text, true, crowd.kinds.size() * (Crowd.ROWS + 1) > 1100);
+        BlameCourt x = Court.readNew(crowd.text);
+        for (int round = 0; round < 3; round++) {
+            crowd.judged(x);
+            for (int k = 0; k < x.about(1); k++) {
+                x.tell(k, k % 3 == round);
+            }
+            x.judge();
+            for (int k = 0; k < x.about(1); k++) {
+                x.tell(k, true);
+            }
+        }
+        crowd.judged(x);
+    }
+
+    /** What is read has its own kinds alone: as many as those of former texts may come behind them. */
+    private static void kindsOfFormerTexts() {
+        BlameCourt x = new BlameCourt();
+        for (int residue = 0; residue < 3; residue++) {
+            Crowd crowd = new Crowd(residue, 3);
+            Court.read(x, crowd.text);
+            Court.due("judge of " + crowd.text, crowd.guards, x.judge());
+            crowd.one(x, 0);
+            crowd.one(x, crowd.kinds.size() - 1);
+        }
     }
 }

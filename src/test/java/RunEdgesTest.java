@@ -9,6 +9,7 @@ public final class RunEdgesTest {
         placesOfWrapped();
         lengthsOfNew();
         numbersGoRound();
+        truths();
         divisions();
         blames();
         wrongs();
@@ -16,6 +17,7 @@ public final class RunEdgesTest {
         callsDeep();
         placesFull();
         thingsFull();
+        thousandWrappings();
         wrappingsFull();
         wrappedTwenty();
         outFull();
@@ -29,6 +31,7 @@ public final class RunEdgesTest {
         askedBounds();
         valuesTold();
         wrappedParties();
+        namesOfCalls();
         Court.close();
     }
 
@@ -133,6 +136,29 @@ public final class RunEdgesTest {
                 gives(both + "if a<b then 1 else 0;", a < b ? 1 : 0);
                 gives(both + "if a=b then 1 else 0;", a == b ? 1 : 0);
             }
+        }
+    }
+
+    /** What ! and < and = give, in both runs, as a VALUE and behind if; "1 truth .. 0 or 1". */
+    private static void truths() {
+        String[][] es = {{"true", "1"}, {"false", "0"}, {"!true", "0"}, {"!false", "1"}, {"!!true", "1"}, {"!!false", "0"}, {"!!!false", "1"},
+            {"1<2", "1"}, {"2<2", "0"}, {"3<2", "0"}, {"1=2", "0"}, {"2=2", "1"}, {"!(1<2)", "0"}, {"!(2<2)", "1"}, {"!(2=2)", "0"}, {"-1<0", "1"},
+            {"0<-1", "0"}, {"1<1+1", "1"}, {"2*2=4", "1"}, {"{1;false}", "0"}, {"[true,false][1]", "0"}, {"new(1,true)[0]", "1"}, {"if false then false else true", "1"},
+            {"let a=false in !a", "1"}, {"[true][0]:=false", "0"}, {"let a:any=false in a", "0"}, {"let a:any=true in a", "1"}};
+        // with as many wrappings and rows around that a truth could be taken for one of them
+        String things = "{let w:any=[1] in let w:any=[2] in let w:any=main in w;";
+        for (String[] e : es) {
+            for (String text : new String[] {"part main():flag=" + e[0] + ";", "part main()=" + e[0] + ";", "part main():flag=" + things + e[0] + "};",
+                "part main()=" + things + e[0] + "};"}) {
+                BlameCourt x = Court.judged(text);
+                for (int untold = 0; untold < 2; untold++) {
+                    Court.due("run of " + text, 0, untold == 1 ? x.runUntold(100) : x.run(100));
+                    Court.due("told(4) of " + text, 1, x.told(4));
+                    Court.due("told(5) of " + text, Integer.parseInt(e[1]), x.told(5));
+                    Court.due("told(6) of " + text, 0, x.told(6));
+                }
+            }
+            gives("part main():int=if " + e[0] + " then 4 else 5;", e[1].equals("1") ? 4 : 5);
         }
     }
 
@@ -389,6 +415,33 @@ public final class RunEdgesTest {
         made(Court.judgedRun(nested.replace("@", "") + rows(996) + "r[0];7};", 0), 2, 998);
         made(Court.fails(6, NONE, nested + rows(997) + "r[0];7};"), 1, 999);
         made(Court.fails(6, NONE, nested + rows(996) + "r[0]:=[];7};"), 1, 999);
+    }
+
+    /** "ROWS and WRAPPINGS together above 1,000", where all of them are wrappings: each has what it needs. */
+    private static void thousandWrappings() {
+        String tens = "part t(n:int):int=if n=0 then 0 else {" + many("let w:any=q in 0;", 10) + "t(n-1)};part q(x:int):int=x+1;part main():int={t(90);t(9);";
+        for (int n = 7; n <= 9; n++) {
+            String text = tens + many("let w:any=q in 0;", n) + "let a:fn(any)int=@q in a(6)};";
+            BlameCourt x = Court.judged(text.replace("@", ""));
+            Court.due("run with " + (990 + n), 0, x.run(20000));
+            made(x, 991 + n, 0);
+            Court.due("told(5)", 7, x.told(5));
+            Court.due("asked(2, 2)", 2 * n + 3, x.asked(2, 2));
+            made(Court.fails(3, 2, text.replace("a(6)", "a(true)")), 991 + n, 0);
+        }
+        String most = tens + many("let w:any=q in 0;", 9);
+        made(Court.fails(6, NONE, most + "let w:any=q in let a:fn(any)int=@q in a(6)};"), 1000, 0);
+        made(Court.fails(6, NONE, most + "let w:any=q in size(@[])};"), 1000, 0);
+        made(Court.fails(6, NONE, most + "let w:any=q in size(@new(0,1))};"), 1000, 0);
+        // what wraps nothing is asked as ever
+        made(Court.judgedRun(most + "let w:any=q in let a:any=5 in let f:fn(any)any=w in a};", 0), 1000, 0);
+        // as many as there may be, half of them rows
+        String rows = "part t(n:int):int=if n=0 then 0 else {" + many("let w:any=[n] in 0;", 10) + "t(n-1)};part main():int={t(49);"
+            + many("let w:any=[1] in 0;", 9);
+        BlameCourt x = Court.judgedRun(rows + "let a:[any]=[6,7] in {a[1]:=8;a[0]*10+a[1]}};", 0);
+        made(x, 500, 500);
+        Court.due("told(5)", 68, x.told(5));
+        made(Court.fails(6, NONE, rows + "[];let a:[any]=@[6,7] in {a[1]:=8;a[0]*10+a[1]}};"), 499, 501);
     }
 
     /** Lets that put so many wrappings around a value, which has then the name s (told) or r (any). */
@@ -764,5 +817,47 @@ public final class RunEdgesTest {
         Court.due("asked(0, 3)", 1, x.asked(0, 3));
         x = Court.fails(3, 3, "part t(f:fn(int)int):any=u(f);part u(f:fn(any)any):any=f(1);part g(x):any=true;part main():any=t(@g);");
         Court.due("asked(0, 1): of what comes out the outer one is not come to", 1, x.asked(0, 1));
+    }
+
+    private static String lets(int many, int from) {
+        StringBuilder b = new StringBuilder();
+        for (int i = 0; i < many; i++) {
+            b.append("let ").append(name(i)).append("=").append(from + i).append(" in ");
+        }
+        return b.toString();
+    }
+
+    private static String name(int i) {
+        return "v" + (char) ('a' + i % 20) + (char) ('a' + i / 20);
+    }
+
+    private static String plusNames(int many) {
+        StringBuilder b = new StringBuilder();
+        for (int i = 0; i < many; i++) {
+            b.append("+").append(name(i));
+        }
+        return b.toString();
+    }
+
+    /** "a PARAM in its PART; that of a let behind its in": each call has its own of them, and as many as there may be. */
+    private static void namesOfCalls() {
+        // around a call of f's are four params and 39 lets, in g there are four and 40; behind the call f's own are as they were
+        String head = "(a:int,b:int,c:int,d:int):int=";
+        String text = "part f" + head + lets(39, 100) + "g(5,6,7,8)*10000+a*b*c*d" + plusNames(39) + ";part g" + head + lets(40, 500) + "a*b*c*d"
+            + plusNames(40) + ";part main():int=f(1,2,3,4);";
+        int inner = 5 * 6 * 7 * 8;
+        int outer = 2 * 3 * 4;
+        for (int i = 0; i < 40; i++) {
+            inner += 500 + i;
+            outer += i < 39 ? 100 + i : 0;
+        }
+        gives(text, outer + 10000 * inner);
+        // each of a hundred calls within one another
+        String deep = "part f(a:int,b:int):int=let c=a*2 in let r=if a=1 then 0 else f(a-1,b+1) in r+a*c+b;part main():int=f(99,0);";
+        int want = 0;
+        for (int a = 1; a <= 99; a++) {
+            want += a * a * 2 + 99 - a;
+        }
+        gives(deep, want);
     }
 }

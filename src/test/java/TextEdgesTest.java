@@ -8,6 +8,8 @@ public final class TextEdgesTest {
 
     public static void main(String[] args) {
         longestText();
+        densestTexts();
+        longTextsAgain();
         everyByte();
         letters();
         keywords();
@@ -18,6 +20,7 @@ public final class TextEdgesTest {
         manyParams();
         manyListed();
         manySigns();
+        manyWaiting();
         manyBehind();
         manyOpen();
         closedAgain();
@@ -65,6 +68,58 @@ public final class TextEdgesTest {
         String sum = "part main()={" + many("1+1;", 746) + "1};";
         taken(1, sum);
         Court.due("bytes", 3000, sum.length());
+    }
+
+    /** A text of just 3,000 bytes that says one thing again and again, and then gives the last one. */
+    private static String dense(String again, String last) {
+        StringBuilder b = new StringBuilder("part main():any={");
+        while (b.length() + again.length() + last.length() + 3 <= 3000) {
+            b.append(again).append(";");
+        }
+        b.append(last).append("};");
+        return b + many("\n", 3000 - b.length());
+    }
+
+    /** Long texts are read to their ends, however much each of their bytes asks for; {what, the last one, its number}. */
+    private static final String[][] DENSE = {{many("-", 39) + "1", "-7", "-7"}, {"1" + many("+1", 40), "3+4*5", "23"},
+        {"1" + many("*-1", 40), "8/3-9%4", "1"}, {"[" + many("1,", 19) + "1]", "[1,2,3][2]", "3"}, {many("!", 38) + "true", "size([1,2])", "2"},
+        {"if true then 1 else 2", "if 1<2 then 5 else 6", "5"}, {"let a=1 in a", "let a=9 in a-1", "8"}, {"[0][0]:=1", "[1,2][1]:=6", "6"},
+        {many("(", 39) + "1" + many(")", 39), "((4))", "4"}, {"new(1,1)[0]", "new(2,5)[1]", "5"}};
+
+    private static void densestTexts() {
+        for (String[] d : DENSE) {
+            String text = dense(d[0], d[1]);
+            Court.due("bytes", 3000, text.length());
+            gives(Court.readNew(text), text, Integer.parseInt(d[2]));
+        }
+    }
+
+    private static void gives(BlameCourt x, String text, int want) {
+        Court.due("judge of " + text, true, x.judge() > 0);
+        Court.due("run of " + text, 0, x.run(20000));
+        Court.due("told(5) of " + text, want, x.told(5));
+        Court.due("runUntold of " + text, 0, x.runUntold(20000));
+        Court.due("told(5) of " + text, want, x.told(5));
+    }
+
+    /** An object reads one long text after another as if each were its first; a call is not answered behind the 512th. */
+    private static void longTextsAgain() {
+        for (int i = 0; i < DENSE.length; i++) {
+            BlameCourt x = new BlameCourt();
+            for (int j = 0; j < 3; j++) {
+                String[] d = DENSE[(i + j) % DENSE.length];
+                String text = dense(d[0], d[1]);
+                Court.due("read of " + text, 1, Court.read(x, text));
+                gives(x, text, Integer.parseInt(d[2]));
+            }
+        }
+        // a faulty one, too, leaves nothing behind in what is read next
+        BlameCourt x = Court.readNew("part main():any=6;");
+        String[] faulty = {dense(DENSE[0][0], "x"), dense(DENSE[1][0], "2147483648"), dense(DENSE[2][0], "#").trim()};
+        for (String text : faulty) {
+            Court.due("read of " + text, NONE, Court.read(x, text));
+            gives(x, "what it had", 6);
+        }
     }
 
     /** "blanks (32, 10) aside", "letters a .. z, A .. Z", "digits", "the signs": each byte where an E is due. */
@@ -340,6 +395,34 @@ public final class TextEdgesTest {
         takenE("-1" + many("--1", 40));
         refusedE(3, "-1" + many("--1", 40) + "@--1");
         takenE("1" + many("*-1", 40));
+    }
+
+    /** As many open around one another as may be, and of each a sign of C, of S and of T that waits for what is within. */
+    private static void manyWaiting() {
+        String head = "part f(b:flag):int=if b then 3 else 5;part main():flag=";
+        for (int turn = 0; turn < 5; turn++) {
+            StringBuilder before = new StringBuilder();
+            int[] left = new int[41];
+            for (int i = 0; i < 41; i++) {
+                left[i] = (i * 7 + turn * 3) % 11 + 4;
+                before.append(left[i]).append(i % 2 == 0 ? "<" : "=").append(i % 3).append("+").append(1 + i % 4).append("*");
+                before.append(i < 40 ? "f(" : "2");
+            }
+            int product = 2;
+            boolean truth = false;
+            for (int i = 40; i >= 0; i--) {
+                int right = i % 3 + (1 + i % 4) * product;
+                truth = i % 2 == 0 ? left[i] < right : left[i] == right;
+                product = truth ? 3 : 5;
+            }
+            BlameCourt x = Court.judged(head + before + many(")", 40) + ";");
+            Court.due("guards", 0, x.about(3));
+            Court.due("run", 0, x.run(20000));
+            Court.due("told(4)", 1, x.told(4));
+            Court.due("told(5)", truth ? 1 : 0, x.told(5));
+            // at each three signs, three numbers, a call and its f, and three within that; the inmost has three signs and four numbers
+            Court.due("told(3)", 40 * (3 + 3 + 2 + 3) + 3 + 4, x.told(3));
+        }
     }
 
     /** "the 41st ( or [ behind one B (at it)". */
