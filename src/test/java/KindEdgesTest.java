@@ -345,6 +345,19 @@ public final class KindEdgesTest {
         guard(x, 1, (head + "f(a);" + inK).length(), 3, 1, ANY, INT);
         guard(x, 2, (head + "f(a);" + inK + "a);f(f(").length(), 3, 1, ANY, INT);
         Court.due("guards", 3, x.about(3));
+        // a NAME alone: not what it gives, not the NAME in ( ) or { }, not a let's or a PARAM's of the same letters
+        String two = "part z():int=1;part f(x:int):fn(int)int=h;part g(a:any):int={?;1};part h(x:int):int=x;part main():int=1;";
+        for (String call : new String[] {"f(1)(@a)", "f(1)(f(1)(@a))", "(f)(@a)", "{f}(@a)", "[f][0](@a)", "let f=f in f(@a)", "let h=h in h(@a)", "new(1,h)[0](@a)",
+            "(h)(@a)", "if true then (f)(@a) else h", "(f(1))(@a)"}) {
+            String text = two.replace("?", call);
+            x = Court.judged(text.replace("@", ""));
+            guard(x, 0, text.indexOf('@'), 2, 2, ANY, INT);
+        }
+        for (String call : new String[] {"f(@a)", "f(@a)(1)", "(f(@a))(1)", "{f(@a)}", "let h=1 in f(@a)", "f(@a)(f(1)(1))", "let x=f in f(@a)"}) {
+            String text = two.replace("?", call);
+            x = Court.judged(text.replace("@", ""));
+            guard(x, 0, text.indexOf('@'), 2, 1, ANY, INT);
+        }
         // all that is asked in a part has that part as both
         x = Court.judged("part z():int=1;part g(a):int={a+1;!a;a[a]:=a;size(a);print(a);if a then 1 else true;[1,true];a(1);new(a,1);let b:int=a in 1};"
             + "part main():int=1;");

@@ -817,6 +817,45 @@ public final class RunEdgesTest {
         Court.due("asked(0, 3)", 1, x.asked(0, 3));
         x = Court.fails(3, 3, "part t(f:fn(int)int):any=u(f);part u(f:fn(any)any):any=f(1);part g(x):any=true;part main():any=t(@g);");
         Court.due("asked(0, 1): of what comes out the outer one is not come to", 1, x.asked(0, 1));
+        outerFirst();
+        writtenThrough();
+    }
+
+    /** "each VALUE .. is asked .., then what is within is called"; "what comes is asked .., then written within": the inner one later. */
+    private static void outerFirst() {
+        String calls = "part t(f:fn(int)int):any=u(@f);part u(f:fn(any)int):any=f(1);part g(x):int=1;part main():any=t(g);";
+        BlameCourt x = Court.judgedRun(calls.replace("@", ""), 0);
+        Court.due("asked(1, 0) by the outer one", 1, x.asked(1, 0));
+        Court.due("asked(0, 3) by the inner one", 1, x.asked(0, 3));
+        x = Court.fails(3, 1, calls.replace("f(1)", "f(true)"));
+        Court.due("asked(1, 0) by the outer one", 1, x.asked(1, 0));
+        Court.due("asked(0, 3): the inner one is not come to", 0, x.asked(0, 3));
+        String writes = "part t(r:[int]):any=u(@r);part u(r:[any]):any=r[0]:=1;part g():int=1;part main():any=let r:[any]=[0] in t(r);";
+        x = Court.judgedRun(writes.replace("@", ""), 0);
+        Court.due("asked(1, 0) by the outer one", 1, x.asked(1, 0));
+        Court.due("asked(0, 3) by the inner one", 1, x.asked(0, 3));
+        x = Court.fails(3, 1, writes.replace(":=1", ":=true"));
+        Court.due("asked(1, 0) by the outer one", 1, x.asked(1, 0));
+        Court.due("asked(0, 3): the inner one is not come to", 0, x.asked(0, 3));
+    }
+
+    /** "its VALUE is that E's, as it is guarded", not as it is written: what is written has been asked once more. */
+    private static void writtenThrough() {
+        String head = "part main():any=let r=[[1]] in let s:[[any]]=r in let a:any=2 in let v=new(1,a) in let w:any=";
+        // s wraps r; what is written into r is a wrapping of v, what s[0]:=v gives is v alone
+        BlameCourt x = Court.judgedRun(head + "1 in s[0]:=v;", 0);
+        Court.due("told(6)", 0, x.told(6));
+        Court.due("told(8): s, and what is written", 2, x.told(8));
+        x = Court.judgedRun(head + "(s[0]:=v) in r[0];", 0);
+        Court.due("told(6): what is read of r, and that it goes to any", 2, x.told(6));
+        x = Court.judgedRun(head + "(s[0]:=v) in s[0];", 0);
+        Court.due("told(6): and that it is read of s", 2, x.told(6));
+        x = Court.judgedRun(head + "(s[0]:=v)[0] in {v[0]:=5;r[0][0]};", 0);
+        Court.due("told(5): it is still v", 5, x.told(5));
+        // what is guarded is given as it is guarded: a row of int goes into a row of any
+        x = Court.judgedRun("part main():any=let r:[any]=[] in let s:[any]=new(1,r) in s[0]:=[7];", 0);
+        Court.due("told(6)", 1, x.told(6));
+        Court.due("told(8): s, and that", 2, x.told(8));
     }
 
     private static String lets(int many, int from) {

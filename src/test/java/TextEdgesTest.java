@@ -255,6 +255,14 @@ public final class TextEdgesTest {
         refusedE(1, "(f[0])@:=1");
         takenE("f()[0]:=1");
         Court.readFault(7, "");
+        // what must be opened is opened by just its own sign
+        for (String other : new String[] {"1)", "[1)", "{1)", ")", "f)", ":(1)", "-(1)"}) {
+            refusedE(1, "size @" + other);
+            refusedE(1, "print @" + other);
+            refusedE(1, "new @" + other.replace(")", ",1)"));
+            Court.readFault(1, "part main @" + other + "=1;");
+            Court.readFault(1, "part main():fn @" + other.replace("1", "int") + "int=1;");
+        }
     }
 
     /** "2 NAME: a PARAM's for the second time in its PART." */
@@ -591,6 +599,19 @@ public final class TextEdgesTest {
             "1<@x", "new(@x,1)", "new(1,@x)", "size(@x)", "print(@x)", "if @x then 1 else 2", "if 1 then @x else 2", "if 1 then 2 else @x",
             "let a=@x in 1", "let a:int=1 in @x"}) {
             refusedE(6, e);
+        }
+        // names of a former text are known no more, wherever they stood in it
+        BlameCourt x = new BlameCourt();
+        for (String name : new String[] {"k", "l", "m", "a", "v"}) {
+            for (int twice = 0; twice < 2; twice++) {
+                Court.due("read", 4, Court.read(x, "part main()=1;part k()=1;part l(a)=let v=a in v;part m()=1;"));
+            }
+            for (int parts = 1; parts < 4; parts++) {
+                String few = "part main()=" + name + ";" + many("part o()=1;", parts - 1).replace("o()=1;part o", "o()=1;part p");
+                Court.due("read of " + few, NONE, Court.read(x, few));
+                Court.due("fault(0) of " + few, 6, x.fault(0));
+                Court.due("fault(1) of " + few, 12, x.fault(1));
+            }
         }
         // the first of these two kinds in the text
         Court.readFault(6, "part f()=@x;part f()=y;");
