@@ -1377,7 +1377,7 @@ public final class BlameCourt {
             }
         }
 
-        /** Puts the kind of an e. */
+        /** The kind of every e comes by here, so that none is missed of whether ANY stands in the part. */
         private void push(int kind) {
             if (top < MAX_STACK) {
                 stack[top] = kind;
